@@ -8,6 +8,7 @@ public final class ActsTest {
         forges();
         loses();
         undoes();
+        undoesOthers();
         forgets();
         keepsImages();
         CHECK.finish();
@@ -103,24 +104,31 @@ public final class ActsTest {
         CHECK.due("so it is", y.person(0, 3), 3);
     }
 
+    private static final String UNDONE = "w1,2;oc;rab2,9;pb2,4;qcd1,30;ta1,3;";
+    private static final int[] SCRIPT = {0, 1, 2, 0, 0, 3, 0, 4, 0, 0, 0};
+
+    private static AlphaCourt afterActs(int acts) {
+        AlphaCourt x = Check.courtOf(UNDONE);
+        for (int k = 0; k < acts; k++) {
+            act(x, SCRIPT[k]);
+            CHECK.due("acts that can be undone", x.count(8), k + 1);
+        }
+        return x;
+    }
+
+    /** From the end of the script back to each of its acts; an object of its own each time, for it has 512 calls. */
     private static void undoes() {
-        AlphaCourt x = Check.courtOf("w1,2;oc;rab2,9;pb2,4;qcd1,30;ta1,3;");
-        x.row(0, 0, 1);
-        String[] images = new String[30];
-        int acts = 0;
-        int[] script = {0, 1, 2, 0, 0, 3, 0, 4, 0, 0, 0};
-        for (int act : script) {
-            images[acts] = Check.image(x);
-            act(x, act);
-            acts++;
-            CHECK.due("acts that can be undone", x.count(8), acts);
+        for (int acts = 0; acts < SCRIPT.length; acts++) {
+            AlphaCourt x = afterActs(SCRIPT.length);
+            for (int left = SCRIPT.length - 1; left >= acts; left--) {
+                CHECK.due("undo", x.undo(), left);
+            }
+            boolean isSame = Check.image(x).equals(Check.image(afterActs(acts)));
+            CHECK.due("as before act " + acts, isSame ? 1 : 0, 1);
+            if (acts == 0) {
+                CHECK.due("none is left", x.undo(), Check.STATE);
+            }
         }
-        while (acts > 0) {
-            acts--;
-            CHECK.due("undo", x.undo(), acts);
-            CHECK.due("as before act " + acts, Check.image(x).equals(images[acts]) ? 1 : 0, 1);
-        }
-        CHECK.due("none is left", x.undo(), Check.STATE);
     }
 
     private static void act(AlphaCourt x, int act) {
@@ -141,6 +149,18 @@ public final class ActsTest {
                 CHECK.due("lose another", x.lose(2, 1), 1);
                 break;
         }
+    }
+
+    private static void undoesOthers() {
+        AlphaCourt x = Check.courtOf("w1,0;o;pab1,50;pab1,50;rab1,50;");
+        x.forge(2, 1, 6);
+        x.forge(2, 0, 5);
+        x.undo();
+        CHECK.due("the place forged last", x.name(2, 0), 0);
+        CHECK.due("the other stays forged", x.name(2, 1), 6);
+        x.undo();
+        CHECK.due("as told", x.name(2, 1), 1);
+        CHECK.due("no other's name was touched", x.name(0, 0) + x.name(1, 0), 0);
     }
 
     private static void forgets() {

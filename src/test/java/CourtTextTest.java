@@ -145,5 +145,17 @@ public final class CourtTextTest {
         CHECK.due("it waits", x.person(0, 3), 0);
         CHECK.due("of the one before nobody is left", x.person(1, 0), Check.BAD);
         CHECK.due("the latest fault is told on", x.fault(), 2);
+        AlphaCourt fewer = Check.courtOf("w4,0;o;pa9,50;pa9,50;pa9,50;pa9,50;pa9,50;pa9,50;");
+        fewer.days(1);
+        CHECK.due("a court of fewer", Check.read(fewer, "w1,0;o;pb2,50;pc3,50;"), 2);
+        CHECK.due("who wait", fewer.count(5), 2);
+        CHECK.due("before c", fewer.person(1, 5), 1);
+        CHECK.due("the letter that frees most", fewer.frees(0), 1);
+        CHECK.due("how many it frees", fewer.frees(1), 1);
+        CHECK.due("b to be last", fewer.last(0, 0), 3);
+        CHECK.due("waited", fewer.waited(), 1 + 3);
+        CHECK.due("warden", fewer.warden(2), Check.NONE);
+        CHECK.due("who wait then", fewer.days(1), 1);
+        CHECK.due("who serve then", fewer.count(6), 1);
     }
 }

@@ -124,6 +124,13 @@ public final class ForetoldTest {
         CHECK.due("nobody", Check.courtOf("w1,0;o;").best(1), 0);
     }
 
+    private static void rows(AlphaCourt x, String what, int waited, int... row) {
+        CHECK.due(what + ": waited", x.warden(-1), waited);
+        for (int place = 0; place < 6; place++) {
+            CHECK.due(what + ": place " + place, x.warden(place), place < row.length ? row[place] : Check.NONE);
+        }
+    }
+
     private static void findsWarden() {
         AlphaCourt x = Check.courtOf("w1,0;o;pa9,99;pd3,99;pf1,99;");
         int[] want = {2, 1, 0, Check.NONE, Check.NONE, Check.NONE};
@@ -161,6 +168,9 @@ public final class ForetoldTest {
         passed.lose(0, 1);
         CHECK.due("who is not seated for a lost letter waits, too", passed.waited(), 9 + 1 + 10);
         CHECK.due("b, c, and a dead by then: the same", passed.warden(-2), 0);
+        rows(Check.courtOf("w1,0;o;pb1,2;pa1,50;pc1,50;"), "dead on the very day", 1 + 2 + 2, 1, 0, 2);
+        rows(Check.courtOf("w2,0;o;pa5,99;pb2,99;pc4,99;pd1,99;"), "two seats", 1 + 1 + 2 + 3, 1, 3, 0, 2);
+        rows(Check.courtOf("w3,0;o;pa1,99;pb9,99;pc9,99;pd9,99;pe2,9;"), "three seats", 1 + 1 + 1 + 2 + 3, 0, 1, 4, 2, 3);
         AlphaCourt nobody = Check.courtOf("w1,0;o;");
         CHECK.due("no row", nobody.warden(0), Check.NONE);
         CHECK.due("no wait", nobody.warden(-1), 0);

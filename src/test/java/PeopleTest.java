@@ -45,6 +45,8 @@ public final class PeopleTest {
         CHECK.dueAll("nameless ahead, saints behind", Check.ofAll(groups, 5), 4, 3, 1, 0, 5, 2);
         AlphaCourt nobles = Check.courtOf("w1,0;o;qab1,9;pb1,9;qba1,9;pab1,9;qbb1,9;");
         CHECK.dueAll("a noble one is read from behind", Check.ofAll(nobles, 5), 3, 2, 0, 1, 4);
+        AlphaCourt longer = Check.courtOf("w1,0;o;qcba1,9;qbca1,9;qacd1,9;pacb1,9;");
+        CHECK.dueAll("all of it from behind", Check.ofAll(longer, 5), 0, 1, 3, 2);
         AlphaCourt lost = Check.courtOf("w1,0;o;pa1,9;pb1,9;");
         lost.lose(0, 1);
         CHECK.due("who would be passed over still waits", lost.person(1, 5), 1);
