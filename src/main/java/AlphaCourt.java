@@ -759,7 +759,7 @@ public final class AlphaCourt {
     private static final class Reader {
         private static final int CANNOT_STAND = 1, NOT_AS_TOLD = 2, NO_ROOM = 3;
         /** What a TOKEN is: its byte, or one of these. */
-        private static final int IS_END = -1, IS_NUMBER = -2;
+        private static final int IS_END = -1, IS_NUMBER = -2, IS_NONE = -3;
         private static final int MOST_FIGURES = 2;
 
         private final int[] tape = new int[MOST_BYTES];
@@ -917,12 +917,15 @@ public final class AlphaCourt {
                 at++;
                 return;
             }
-            token = IS_NUMBER;
+            // figures side by side are one, however many: too many of them are no TOKEN at all
             number = 0;
-            for (int k = 0; k < MOST_FIGURES && isFigureAt(at); k++) {
-                number = number * 10 + tape[at] - '0';
+            for (int k = 0; k < MOST_BYTES && isFigureAt(at); k++) {
+                if (k < MOST_FIGURES) {
+                    number = number * 10 + tape[at] - '0';
+                }
                 at++;
             }
+            token = at - tokenPlace > MOST_FIGURES ? IS_NONE : IS_NUMBER;
         }
     }
 

@@ -7,6 +7,7 @@ public final class CourtTextTest {
         feeds();
         reads();
         findsFaults();
+        findsTooManyFigures();
         replaces();
         CHECK.finish();
     }
@@ -121,11 +122,39 @@ public final class CourtTextTest {
         faulty(six + "pa1,1;", 43, 3);
         faulty(six + "t", 43, 3);
         faulty(six + "x", 43, 1);
-        // a NUMBER has 2 figures at most: the third one is a TOKEN of its own
-        faulty("w1,100;o;", 5, 1);
-        faulty("w100,0;o;", 1, 2);
-        faulty(head + "pa1,100;", 13, 1);
-        faulty(head + "pa001,1;", 9, 2);
+    }
+
+    /** Figures side by side are one; three of them, or more, are no NUMBER nor anything else: FAULT 1, where they begin. */
+    private static void findsTooManyFigures() {
+        String head = "w1,0;o;";
+        faulty("w131", 1, 1);
+        faulty("w100,0;o;", 1, 1);
+        faulty("w001,0;o;", 1, 1);
+        faulty("w1,100;o;", 3, 1);
+        faulty("w1,000;o;", 3, 1);
+        faulty("w5,100;o;", 1, 2);
+        faulty(head + "pa001,1;", 9, 1);
+        faulty(head + "pabcd300,1;", 12, 1);
+        faulty(head + "pa1,100;", 11, 1);
+        faulty(head + "pa1,0001;", 11, 1);
+        faulty(head + "pa31,100;", 9, 2);
+        // where no NUMBER can stand either
+        faulty("123", 0, 1);
+        faulty("w1123;", 1, 1);
+        faulty("w1,0123;", 3, 1);
+        faulty("w1,0;123", 5, 1);
+        faulty("w1,0;oa123;", 7, 1);
+        faulty(head + "123", 7, 1);
+        faulty(head + "p123,1;", 8, 1);
+        // so many that the tape is full, or that an int could not hold them
+        faulty("w" + "1".repeat(119), 1, 1);
+        faulty("0".repeat(120), 0, 1);
+        faulty("w4294967297,0;o;", 1, 1);
+        faulty(head + "pa1,4294967297;", 11, 1);
+        AlphaCourt x = new AlphaCourt();
+        CHECK.due("two figures are a NUMBER", Check.read(x, "w01,00;o;pa01,99;pb30,01;"), 2);
+        CHECK.due("three ones", Check.read(x, "w01,000;o;"), -1000104);
+        CHECK.due("all stays", x.count(1), 2);
     }
 
     private static void replaces() {

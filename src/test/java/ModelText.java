@@ -5,8 +5,8 @@ import java.util.regex.Pattern;
 
 /** A COURT's text, read by a table: in each state the TOKENS that can stand there, and where they lead. */
 final class ModelText {
-    private static final Pattern TOKEN = Pattern.compile("[0-9]{1,2}|.", Pattern.DOTALL);
-    /** State, what can stand there, the state behind it; # is a NUMBER. */
+    private static final Pattern TOKEN = Pattern.compile("[0-9]+|.", Pattern.DOTALL);
+    /** State, what can stand there, the state behind it; # is a NUMBER: more figures than two are none. */
     private static final String[][] TABLE = {
         {"law", "w", "seats"}, {"seats", "#", "comma"}, {"comma", ",", "turns"}, {"turns", "#", "lawEnd"},
         {"lawEnd", ";", "order"}, {"order", "o", "letters"}, {"letters", "[a-h]", "letters"},
@@ -45,7 +45,7 @@ final class ModelText {
 
     private static String next(String state, String token) {
         for (String[] line : TABLE) {
-            if (line[0].equals(state) && token.matches(line[1].equals("#") ? "[0-9]+" : line[1])) {
+            if (line[0].equals(state) && token.matches(line[1].equals("#") ? "[0-9]{1,2}" : line[1])) {
                 return line[2];
             }
         }
