@@ -5,13 +5,33 @@ final class Check {
 
     private int wrong;
     private int asked;
+    private String test = "";
+
+    /** From now on what is not as due is told with this test's name. */
+    void begin(String itsName) {
+        test = itsName + ": ";
+    }
+
+    int asked() {
+        return asked;
+    }
 
     void due(String what, int got, int want) {
         asked++;
         if (got != want) {
             wrong++;
-            System.out.println(what + " answered " + got + ", due is " + want);
+            System.out.println(test + what + " answered " + got + ", due is " + want);
         }
+    }
+
+    void isTrue(String what, boolean is) {
+        due(what, is ? 1 : 0, 1);
+    }
+
+    /** That all that can be seen of an object is as it was. */
+    void dueSame(String what, AlphaCourt x, String before) {
+        String now = image(x);
+        isTrue(what + ", as before: " + before + ", now: " + now, now.equals(before));
     }
 
     void dueAll(String what, int[] got, int... want) {
