@@ -566,6 +566,17 @@ public final class ActsBoundaryTest {
         }
     }
 
+    static void promise12_aDayOfAllSixIsUndone() {
+        AlphaCourt x = Check.courtOf("w4,0;o;" + "pa1,9;".repeat(6));
+        String before = Check.image(x);
+        x.days(2);
+        dueStates("day 2", x, 2, 2, 2, 2, 1, 1);
+        CHECK.due("undo", x.undo(), 1);
+        dueStates("day 1", x, 1, 1, 1, 1, 0, 0);
+        CHECK.due("undo", x.undo(), 0);
+        CHECK.dueSame("day 0", x, before);
+    }
+
     static void promise12_theDeadWaitAgain() {
         AlphaCourt x = Check.courtOf(HEAD + "pa30,99;pb1,5;");
         x.days(5);

@@ -412,6 +412,23 @@ public final class CourtsBoundaryTest {
         CHECK.due("waited", x.waited(), 1 + 3);
     }
 
+    /** What was foretold for the one before, or tried for it, must not be left in the new one. */
+    static void promise07_aCourtStandsInPlaceOfOneThatWasForetold() {
+        AlphaCourt x = Check.courtOf("w2,1;oh;rab9,50;pb9,50;qcd9,50;pe9,50;");
+        x.days(5);
+        x.lose(4, 1);
+        x.lose(1, 1);
+        x.row(0, 0, 0);
+        x.ledger(0, 0, 0);
+        x.drop(0);
+        x.last(3, -1);
+        x.best(0);
+        x.warden(-2);
+        x.waited();
+        Check.read(x, "w1,0;o;qb2,30;pc3,31;pe1,32;");
+        CHECK.dueSame("read", x, Check.image(Check.courtOf("w1,0;o;qb2,30;pc3,31;pe1,32;")));
+    }
+
     static void promise07_theSameTextReadAgainBeginsAnew() {
         AlphaCourt x = Check.courtOf(SIX.replace("1,1", "1,9"));
         String before = Check.image(x);

@@ -267,6 +267,15 @@ public final class ForetoldBoundaryTest {
         dueLast(Check.courtOf(HEAD + "phhh1,9;paaaa1,9;"), 1, 3, 7, 7, 7, 0);
     }
 
+    static void promise18_ofSixAndOfFewerThanBefore() {
+        AlphaCourt x = Check.courtOf(HEAD + "pa1,9;pb1,9;pc1,9;pd1,9;pe1,9;ph1,9;");
+        dueLast(x, 0, Check.NONE, Check.NONE);
+        dueLast(x, 5, 0, 7);
+        Check.read(x, HEAD + "pa1,9;pb1,9;");
+        dueLast(x, 0, 1, 2);
+        dueLast(x, 1, 0, 1);
+    }
+
     static void promise18_theFewestTheFirstByLetters() {
         dueLast(Check.courtOf(HEAD + "pabc1,9;pbcd1,9;"), 0, 1, 2, 1, 2);
         dueLast(Check.courtOf(HEAD + "pbaa1,9;pbba1,9;"), 0, 1, 1, 2, 0);
@@ -451,6 +460,13 @@ public final class ForetoldBoundaryTest {
         AlphaCourt late = withLost("w3,0;o;pa9,99;pb4,99;pc3,99;", 0, 1, 2);
         late.days(20);
         dueWarden(late, 3 * 21, 0, 1, 2);
+    }
+
+    static void promise20_oneByOneOnSeveralSeats() {
+        dueWarden("w2,0;o;pa5,99;pb2,99;pc4,99;pd1,99;", 1 + 1 + 2 + 3, 1, 3, 0, 2);
+        dueWarden("w3,0;o;pa1,99;pb9,99;pc9,99;pd9,99;pe2,9;", 1 + 1 + 1 + 2 + 3, 0, 1, 4, 2, 3);
+        dueWarden("w4,0;o;pa4,99;pb3,99;pc2,99;pd1,99;pe9,99;pf9,3;", 1 + 1 + 1 + 1 + 2 + 3, 0, 1, 2, 3, 4, 5);
+        dueWarden("w2,0;o;pa9,99;pb9,99;pc1,3;pd1,4;", 1 + 1 + 2 + 2, 2, 3, 0, 1);
     }
 
     static void promise20_nothingChanges() {
@@ -664,6 +680,8 @@ public final class ForetoldBoundaryTest {
         CHECK.due("a", x.ledger(0, 0, 1), 0);
         CHECK.due("a b", x.ledger(0, 0, 2), 0b11111001);
         CHECK.due("a b c", x.ledger(0, 0, 3), 0);
+        CHECK.due("waited", x.waited(), 1 + 1 + 10);
+        CHECK.due("a b c, though all are seated later", x.ledger(0, 0, 3), 0);
         CHECK.due("b c", x.ledger(0, 1, 2), 0b10);
         CHECK.due("c a", x.ledger(0, 2, 2), 0b100);
         CHECK.due("a a", x.ledger(0, 3, 2), 0);

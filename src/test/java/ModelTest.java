@@ -218,7 +218,8 @@ public final class ModelTest {
                 due("set", x.set(0, place, q), m.set(0, place, q));
             }
             due("ledger of the first", x.ledger(0, 0, n), m.ledger(0, 0, n));
-            return 9;
+            // three calls for each of six people, and four besides: an object has 512 in all
+            return 22;
         }
         due("ledger", x.ledger(k % 3, i, n), m.ledger(k % 3, i, n));
         return 1;
