@@ -12,6 +12,8 @@ public final class AlphaCourt {
     private static final int MOST_DAYS = 20, LAST_DAY = 999, FORESIGHT = 300;
     private static final int MOST_ACTS = 24, IMAGES = 2, MOST_TRACE = 16;
     private static final int NOBODY = -1;
+    /** Beyond every DAY that is foretold, and beyond all that PEOPLE can wait together. */
+    private static final int NEVER = 1000000;
 
     private static final int WAITS = 0, SERVES = 1, IS_FREE = 2, IS_DEAD = 3;
 
@@ -454,7 +456,7 @@ public final class AlphaCourt {
         return many;
     }
 
-    /** The COURT with all seats taken that will be, if THE ORDER is turned so often besides; it stands till the next. */
+    /** The COURT with all seats taken that will be, if THE ORDER is turned so often besides; good till the next one. */
     private Court foretell(int besides) {
         draft.takeFrom(court);
         draft.seatTill(court.day + FORESIGHT, besides);
@@ -714,7 +716,7 @@ public final class AlphaCourt {
 
         private int openDay(int from) {
             int serving = 0;
-            int soonest = Integer.MAX_VALUE;
+            int soonest = NEVER;
             for (int p = 0; p < people; p++) {
                 if (servesOn(p, from)) {
                     serving++;
@@ -1010,7 +1012,7 @@ public final class AlphaCourt {
                 return NONE;
             }
             for (int changes = 0; changes <= c.lengths[person]; changes++) {
-                if (tryNames(c, person, rival, turn, 0, changes)) {
+                if (tryNames(trial, c, person, rival, turn, 0, changes)) {
                     return changes;
                 }
             }
@@ -1026,7 +1028,7 @@ public final class AlphaCourt {
         }
 
         /** Tries all NAMES with so many changes from a place on, the first by LETTERS ahead; a NAME has 4 at most. */
-        private boolean tryNames(Court c, int person, int rival, int turn, int place, int changes) {
+        private static boolean tryNames(Court trial, Court c, int person, int rival, int turn, int place, int changes) {
             int rest = c.lengths[person] - place;
             if (changes > rest) {
                 return false;
@@ -1039,7 +1041,7 @@ public final class AlphaCourt {
                 int left = letter == own ? changes : changes - 1;
                 if (left >= 0) {
                     trial.putLetter(person, place, letter);
-                    if (tryNames(c, person, rival, turn, place + 1, left)) {
+                    if (tryNames(trial, c, person, rival, turn, place + 1, left)) {
                         return true;
                     }
                 }
@@ -1061,7 +1063,7 @@ public final class AlphaCourt {
         void plan(Court c) {
             openSeats(c);
             size = 0;
-            least = Integer.MAX_VALUE;
+            least = NEVER;
             int waiting = 0;
             int past = 0;
             for (int p = 0; p < c.people; p++) {
@@ -1072,7 +1074,7 @@ public final class AlphaCourt {
                     past += c.isSeated(p) ? c.seated[p] : c.lives[p];
                 }
             }
-            seatOneByOne(c, 0, waiting, past);
+            seatOneByOne(this, c, 0, waiting, past);
         }
 
         private void openSeats(Court c) {
@@ -1099,28 +1101,28 @@ public final class AlphaCourt {
         }
 
         /** Goes one level deeper with each of the PEOPLE, 6 at most, those of lesser numbers ahead. */
-        private void seatOneByOne(Court c, int place, int waiting, int sum) {
+        private static void seatOneByOne(Planner plan, Court c, int place, int waiting, int sum) {
             // who is still to come only adds to the sum
-            if (sum >= least) {
+            if (sum >= plan.least) {
                 return;
             }
-            if (place >= size) {
-                least = sum;
-                System.arraycopy(row, 0, bestRow, 0, size);
+            if (place >= plan.size) {
+                plan.least = sum;
+                System.arraycopy(plan.row, 0, plan.bestRow, 0, plan.size);
                 return;
             }
-            int seat = firstOpenSeat();
-            int day = openDays[seat];
+            int seat = plan.firstOpenSeat();
+            int day = plan.openDays[seat];
             for (int p = 0; p < c.people; p++) {
                 if ((waiting >> p & 1) == 1) {
-                    row[place] = p;
+                    plan.row[place] = p;
                     int rest = waiting & ~(1 << p);
                     if (day < c.lives[p]) {
-                        openDays[seat] = day + c.terms[p];
-                        seatOneByOne(c, place + 1, rest, sum + day);
-                        openDays[seat] = day;
+                        plan.openDays[seat] = day + c.terms[p];
+                        seatOneByOne(plan, c, place + 1, rest, sum + day);
+                        plan.openDays[seat] = day;
                     } else {
-                        seatOneByOne(c, place + 1, rest, sum + c.lives[p]);
+                        seatOneByOne(plan, c, place + 1, rest, sum + c.lives[p]);
                     }
                 }
             }
@@ -1140,7 +1142,7 @@ public final class AlphaCourt {
         int answer(Court c, int person, int what) {
             traced = 0;
             int kind = c.kinds[person];
-            return give(c, person, what == 0 ? SIZE_BODY[kind] : MARK_BODY[kind], 0);
+            return give(this, c, person, what == 0 ? SIZE_BODY[kind] : MARK_BODY[kind], 0);
         }
 
         private void leave(int body) {
@@ -1150,33 +1152,34 @@ public final class AlphaCourt {
             }
         }
 
-        private int give(Court c, int person, int body, int depth) {
+        private static int give(Asks asks, Court c, int person, int body, int depth) {
             if (depth > DEEPEST) {
                 return 0;
             }
-            leave(body);
+            asks.leave(body);
             int deeper = depth + 1;
+            int kind = c.kinds[person];
             switch (body) {
                 case 10:
                     return c.terms[person];
                 case 11:
-                    return give(c, person, 10, deeper) + give(c, person, MARK_BODY[c.kinds[person]], deeper);
+                    return give(asks, c, person, 10, deeper) + give(asks, c, person, MARK_BODY[kind], deeper);
                 case 12:
-                    return 0 - give(c, person, 11, deeper);
+                    return 0 - give(asks, c, person, 11, deeper);
                 case 13:
-                    return give(c, person, 10, deeper) - 100;
+                    return give(asks, c, person, 10, deeper) - 100;
                 case 14:
-                    return give(c, person, 13, deeper) * 2;
+                    return give(asks, c, person, 13, deeper) * 2;
                 case 20:
                     return person;
                 case 21:
-                    return give(c, person, 20, deeper) + c.lengths[person];
+                    return give(asks, c, person, 20, deeper) + c.lengths[person];
                 case 22:
-                    return give(c, person, 21, deeper) - 1000;
+                    return give(asks, c, person, 21, deeper) - 1000;
                 case 23:
-                    return give(c, person, 20, deeper) - give(c, person, SIZE_BODY[c.kinds[person]], deeper);
+                    return give(asks, c, person, 20, deeper) - give(asks, c, person, SIZE_BODY[kind], deeper);
                 case 24:
-                    return give(c, person, 21, deeper) * 2;
+                    return give(asks, c, person, 21, deeper) * 2;
                 default:
                     return 0;
             }

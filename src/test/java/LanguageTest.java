@@ -17,10 +17,19 @@ public final class LanguageTest {
         + "forge(3) frees(1) image(1) kind(1) last(2) ledger(3) lose(2) name(2) order(1) person(2) restore(1) row(3) "
         + "set(3) status(0) trace(1) undo(0) waited(0) warden(1) when(2)";
 
+    private static final Path SOURCE = Path.of("src/main/java/AlphaCourt.java");
+    /** A method from its first line to the brace that closes it: its words ahead, its name, its body. */
+    private static final Pattern METHOD =
+        Pattern.compile("(?ms)^( +)((?:[\\w\\[\\]]+ )+)(\\w+)\\([^()]*\\) \\{\n(.*?)^\\1\\}");
+
     public static void main(String[] args) throws IOException {
         hasTheFace();
         hasNoOtherNames();
         keepsToTheWords();
+        rule01_noPrivateMethodBearsAPublicName();
+        rule04_ofTheLibraryOnlyFunctionsAreNamed();
+        rule08_whatCallsItselfIsPrivateAndStatic();
+        rule09_noLoopWithoutACounter();
         CHECK.finish();
     }
 
@@ -70,8 +79,8 @@ public final class LanguageTest {
     }
 
     private static void keepsToTheWords() throws IOException {
-        String text = Files.readString(Path.of("src/main/java/AlphaCourt.java"));
-        String code = text.replaceAll("(?s)/\\*.*?\\*/", "").replaceAll("//[^\n]*", "");
+        String text = Files.readString(SOURCE);
+        String code = codeAlone();
         String[] forbidden = {"throw", "throws", "try", "catch", "finally", "synchronized", "assert", "import",
             "package", "protected", "volatile", "native", "goto", "lambda", "System\\.(?!arraycopy)", "Object",
             "Math\\.\\w+Exact", "String\\.format", "Random", "Thread", "float", "double", "->", "::"};
@@ -91,6 +100,53 @@ public final class LanguageTest {
                 CHECK.due("lines of a method that ends with " + line, Math.max(60, length), 60);
                 length = 0;
             }
+        }
+    }
+
+    private static String codeAlone() throws IOException {
+        return Files.readString(SOURCE).replaceAll("(?s)/\\*.*?\\*/", "").replaceAll("//[^\n]*", "");
+    }
+
+    private static void rule01_noPrivateMethodBearsAPublicName() {
+        for (Method m : AlphaCourt.class.getDeclaredMethods()) {
+            boolean isPublic = Modifier.isPublic(m.getModifiers());
+            CHECK.due(m.getName() + " is public, or bears no public name",
+                !isPublic && FACE.matches("(.* )?" + m.getName() + "\\(.*") ? 1 : 0, 0);
+        }
+    }
+
+    private static void rule04_ofTheLibraryOnlyFunctionsAreNamed() throws IOException {
+        Set<String> own = new TreeSet<>();
+        for (Class<?> inner : AlphaCourt.class.getDeclaredClasses()) {
+            own.add(inner.getSimpleName());
+        }
+        Matcher m = Pattern.compile("\\b([A-Z]\\w*)\\.(\\w+\\(?)").matcher(codeAlone());
+        while (m.find()) {
+            boolean isAllowed = m.group().matches("(Math|Integer|Long)\\.[a-z]\\w*\\(|System\\.arraycopy\\(");
+            CHECK.due(m.group() + " is listed", own.contains(m.group(1)) || isAllowed ? 1 : 0, 1);
+        }
+    }
+
+    private static void rule08_whatCallsItselfIsPrivateAndStatic() throws IOException {
+        int seen = 0;
+        Matcher m = METHOD.matcher(codeAlone());
+        while (m.find()) {
+            boolean callsItself = Pattern.compile("(?<![\\w.])" + m.group(3) + "\\(").matcher(m.group(4)).find();
+            if (callsItself) {
+                seen++;
+                CHECK.due(m.group(3) + " is private and static", m.group(2).startsWith("private static ") ? 1 : 0, 1);
+            }
+        }
+        CHECK.due("methods that call themselves", seen, 3);
+    }
+
+    private static void rule09_noLoopWithoutACounter() throws IOException {
+        String code = codeAlone();
+        CHECK.due("while, do", Pattern.compile("\\b(while|do)\\b").matcher(code).find() ? 1 : 0, 0);
+        Matcher m = Pattern.compile("\\bfor \\(([^;]*);([^;]*);([^)]*)\\)").matcher(code);
+        while (m.find()) {
+            CHECK.due("a bound in " + m.group(), m.group(2).matches(".* (<|<=) .*") ? 1 : 0, 1);
+            CHECK.due("a counter in " + m.group(), m.group(3).matches(" \\w+\\+\\+") ? 1 : 0, 1);
         }
     }
 }
